@@ -1,0 +1,143 @@
+import java.io.IOException;
+import java.lang.reflect.Field;
+import java.lang.reflect.Method;
+import java.lang.reflect.Modifier;
+import java.nio.charset.StandardCharsets;
+import java.nio.file.Files;
+import java.nio.file.Path;
+import java.util.ArrayList;
+import java.util.List;
+import java.util.TreeSet;
+import java.util.regex.Matcher;
+import java.util.regex.Pattern;
+
+/** The public face, constant for constant and method for method, and the rules of LANGUAGE.md that can be read off. */
+final class FaceTest {
+    private static final String[] CONSTANTS = {
+        "BAD_TEXT=-3", "BAD_VALUE=-2", "DRY=2", "FALL=3", "NONE=-6", "NOT_POSSIBLE=-5", "NO_SUCH=-1", "PLAY=4",
+        "THIEF=6", "TOO_MANY=-4", "TUNE=5", "WARN=0", "WET=1"};
+    private static final String[] METHODS = {
+        "bestPlace(int,int)", "carryOut()", "count(int)", "cover(int)", "coveredIn(int)", "fault()", "keeper(int)",
+        "of(int,int)", "ofKeeper(int,int)", "pass(int)", "piano(int,int)", "put(long)", "rain(int)", "rainIn()",
+        "restore(int)", "save(int)", "set(int,int)", "take(int)", "undo()", "why(int)", "willBeWet(int)", "wipe()",
+        "worst()"};
+    private static final String[] FORBIDDEN = {
+        "\\bthrow\\b", "\\btry\\b", "\\bcatch\\b", "\\bsynchronized\\b", "\\bassert\\b", "\\bimport\\b", "\\bpackage\\b",
+        "->", "::", "\\bstatic\\s*\\{", "Exact\\(", "\\bObject\\b", "\\bequals\\b", "\\bhashCode\\b", "\\btoString\\b",
+        "\\binstanceof\\b", "\\bRandom\\b", "\\bSystem\\.(?!arraycopy\\b)", "\\bnew \\w+\\[[^\\]A-Z]"};
+
+    public static void main(String[] args) throws IOException {
+        constants();
+        methods();
+        namesOfPrivateMethods();
+        sizes();
+        source(Path.of(args.length > 0 ? args[0] : "src/main/java/PianoCovers.java"));
+        Due.finish("FaceTest");
+    }
+
+    private static void constants() {
+        TreeSet<String> seen = new TreeSet<>();
+        for (Field field : PianoCovers.class.getDeclaredFields()) {
+            if (Modifier.isPrivate(field.getModifiers())) {
+                continue;
+            }
+            Due.due(field.getName() + " is public static final int", field.getModifiers(),
+                Modifier.PUBLIC | Modifier.STATIC | Modifier.FINAL);
+            Due.same(field.getName(), field.getType().getName(), "int");
+            try {
+                seen.add(field.getName() + "=" + field.getInt(null));
+            } catch (IllegalAccessException e) {
+                seen.add(field.getName() + " can't be read");
+            }
+        }
+        Due.same("constants", seen.toString(), List.of(CONSTANTS).toString());
+    }
+
+    private static void methods() {
+        TreeSet<String> seen = new TreeSet<>();
+        for (Method method : PianoCovers.class.getDeclaredMethods()) {
+            if (Modifier.isPrivate(method.getModifiers())) {
+                continue;
+            }
+            Due.due(method.getName() + " is public", method.getModifiers(), Modifier.PUBLIC);
+            Due.same(method.getName(), method.getReturnType().getName(), "int");
+            List<String> types = new ArrayList<>();
+            for (Class<?> type : method.getParameterTypes()) {
+                types.add(type.getName());
+            }
+            seen.add(method.getName() + "(" + String.join(",", types) + ")");
+        }
+        Due.same("methods", seen.toString(), List.of(METHODS).toString());
+        Due.due("constructors", PianoCovers.class.getDeclaredConstructors().length, 1);
+        Due.due("public constructors without parameters", PianoCovers.class.getConstructors()[0].getParameterCount(), 0);
+        Due.due("the class is public and final", PianoCovers.class.getModifiers(), Modifier.PUBLIC | Modifier.FINAL);
+    }
+
+    private static void namesOfPrivateMethods() {
+        TreeSet<String> names = new TreeSet<>();
+        for (String method : METHODS) {
+            names.add(method.substring(0, method.indexOf('(')));
+        }
+        List<Class<?>> classes = new ArrayList<>(List.of(PianoCovers.class.getDeclaredClasses()));
+        classes.add(PianoCovers.class);
+        for (Class<?> type : classes) {
+            for (Method method : type.getDeclaredMethods()) {
+                boolean own = Modifier.isPublic(method.getModifiers()) && type == PianoCovers.class;
+                Due.due(type.getName() + "." + method.getName() + " bears a public name",
+                    !own && names.contains(method.getName()) ? 1 : 0, 0);
+                Due.due(method.getName() + " has at most seven parameters", method.getParameterCount() <= 7 ? 1 : 0, 1);
+            }
+        }
+    }
+
+    private static void sizes() {
+        Class<?>[] inside = PianoCovers.class.getDeclaredClasses();
+        Due.due("at most twelve classes", inside.length < 12 ? 1 : 0, 1);
+        for (Class<?> type : inside) {
+            Due.due(type.getName() + " is static", Modifier.isStatic(type.getModifiers()) ? 1 : 0, 1);
+            Due.due(type.getName() + " is not public", Modifier.isPublic(type.getModifiers()) ? 1 : 0, 0);
+            fields(type);
+        }
+        fields(PianoCovers.class);
+    }
+
+    private static void fields(Class<?> type) {
+        int own = 0;
+        for (Field field : type.getDeclaredFields()) {
+            boolean isStatic = Modifier.isStatic(field.getModifiers());
+            own += isStatic ? 0 : 1;
+            boolean lasting = !isStatic || Modifier.isFinal(field.getModifiers());
+            Due.due(field.getName() + " is final if it is static", lasting ? 1 : 0, 1);
+        }
+        Due.due(type.getName() + " has at most twenty fields", own <= 20 ? 1 : 0, 1);
+    }
+
+    private static void source(Path path) throws IOException {
+        String text = Files.readString(path, StandardCharsets.UTF_8);
+        String code = text.replaceAll("(?s)/\\*.*?\\*/", " ").replaceAll("//[^\n]*", " ");
+        for (String forbidden : FORBIDDEN) {
+            Matcher matcher = Pattern.compile(forbidden).matcher(code);
+            Due.same("forbidden " + forbidden, matcher.find() ? matcher.group() : "", "");
+        }
+        for (int i = 0; i < text.length(); i++) {
+            if (text.charAt(i) > 126) {
+                Due.due("a sign above 126 at " + i, text.charAt(i), 0);
+            }
+        }
+        methodLengths(code);
+    }
+
+    private static void methodLengths(String code) {
+        int begin = 0;
+        int number = 0;
+        for (String line : code.split("\n")) {
+            number++;
+            if (line.matches(" {4,8}(?:public|private).*\\) \\{")) {
+                begin = number;
+            } else if (line.matches(" {4,8}\\}") && begin > 0) {
+                Due.due("the method at line " + begin + " is short", number - begin < 60 ? 1 : 0, 1);
+                begin = 0;
+            }
+        }
+    }
+}
