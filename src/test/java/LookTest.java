@@ -145,6 +145,8 @@ final class LookTest {
         Due.due("and 11", x.worst(), 11);
         x.take(11);
         Due.due("and 5", x.worst(), 5);
+        x.piano(0, 0);
+        Due.due("of two alike the lower one", x.worst(), 0);
         PianoCovers y = new PianoCovers();
         y.set(PianoCovers.FALL, 20);
         y.rain(Help.ALL_HOURS);

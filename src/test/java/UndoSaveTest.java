@@ -2,6 +2,7 @@
 final class UndoSaveTest {
     public static void main(String[] args) {
         undoOfEachChange();
+        undoWithFourKeepers();
         undoBackwards();
         undoDropsTheOldest();
         undoAndThenChange();
@@ -14,7 +15,7 @@ final class UndoSaveTest {
 
     private static PianoCovers busy() {
         PianoCovers x = new PianoCovers();
-        Help.write(x, "p1c;p4;p6c;p11c;k2;k11;r9,22;t40");
+        Help.write(x, "p1c;p4;p6c;p11c;k2;k11;r9,22;t47");
         x.carryOut();
         x.set(PianoCovers.PLAY, 33);
         return x;
@@ -25,7 +26,7 @@ final class UndoSaveTest {
             PianoCovers x = busy();
             x.save(1);
             x.rain(Help.hour(5));
-            x.undo();
+            Due.due("a piano is damp", x.of(4, 1), 20);
             String seen = Help.street(x);
             int before = x.count(18);
             int answer = change(x, change);
@@ -50,6 +51,41 @@ final class UndoSaveTest {
             default:
                 Help.write(x, "p0c;t50;k7;r3");
                 return x.carryOut();
+        }
+    }
+
+    /** Each keeper has a piano of its own to cover, open and tune, and a way to go. */
+    private static void undoWithFourKeepers() {
+        PianoCovers x = new PianoCovers();
+        x.set(PianoCovers.FALL, 20);
+        x.set(PianoCovers.TUNE, 100);
+        x.rain(Help.hour(0, 1, 2));
+        for (int keeper = 0; keeper < 4; keeper++) {
+            x.piano(3 * keeper + 1, 1);
+            x.keeper(3 * keeper);
+        }
+        x.pass(12);
+        for (int keeper = 0; keeper < 4; keeper++) {
+            for (int what = 1; what <= 4; what++) {
+                Due.due("keeper " + keeper + " did " + what, x.ofKeeper(keeper, what) > 0 ? 1 : 0, 1);
+            }
+        }
+        String seen = Help.street(x);
+        x.save(0);
+        for (int i = 0; i < 5; i++) {
+            x.take(1 + 3 * (i % 4));
+            x.piano(2 + 3 * (i % 4), 1);
+            x.pass(50);
+            Due.due("keeper " + i % 4 + " went on", x.ofKeeper(i % 4, 4) > 1 ? 1 : 0, 1);
+            String later = Help.street(x);
+            x.restore(0);
+            Due.same("restored " + i, Help.street(x), seen);
+            x.undo();
+            Due.same("undone " + i, Help.street(x), later);
+            x.undo();
+            x.undo();
+            x.undo();
+            Due.same("all undone " + i, Help.street(x), seen);
         }
     }
 

@@ -8,6 +8,7 @@ final class WhatIfTest {
         willBeWet();
         bestPlace();
         bestPlaceWithFour();
+        bestPlaceWithFourKeepsThievesOff();
         bestPlaceKeepsItsOrder();
         nothingChanges();
         Due.finish("WhatIfTest");
@@ -216,6 +217,24 @@ final class WhatIfTest {
         Due.due("and five bring", x.bestPlace(1, 1), 5);
         Due.due("four keepers", x.count(4), 4);
         Due.due("there is no fifth", x.ofKeeper(4, 0), -1);
+    }
+
+    /** A fifth keeper at 0 guards the cover by night; keeper 0 then has one to lay on, and the piano is not played. */
+    private static void bestPlaceWithFourKeepsThievesOff() {
+        PianoCovers x = new PianoCovers();
+        x.set(PianoCovers.THIEF, 1);
+        x.set(PianoCovers.TUNE, 0);
+        x.set(PianoCovers.FALL, 0);
+        x.set(PianoCovers.WET, 1);
+        x.set(PianoCovers.WARN, 3);
+        x.piano(0, 1);
+        x.keeper(2);
+        for (int keeper = 1; keeper < 4; keeper++) {
+            x.keeper(11);
+        }
+        x.rain(Help.hour(9));
+        Due.due("elsewhere the cover goes, and hour 8 brings", x.bestPlace(9, 1), 10);
+        Due.due("so the lowest place but 0", x.bestPlace(9, 0), 1);
     }
 
     /** The same street, made by the same calls. */
