@@ -2,15 +2,21 @@
 final class Due {
     private static int passed = 0;
     private static int failed = 0;
+    /** Stands ahead of what is printed, so that it is seen which sentence does not hold. */
+    private static String about = "";
 
     private Due() { }
+
+    static void about(String words) {
+        about = words;
+    }
 
     static void due(String call, long got, long want) {
         if (got == want) {
             passed++;
         } else {
             failed++;
-            System.out.println(call + " answered " + got + ", due is " + want);
+            System.out.println(about + call + " answered " + got + ", due is " + want);
         }
     }
 
@@ -19,12 +25,16 @@ final class Due {
             passed++;
         } else {
             failed++;
-            System.out.println(what + ": " + got + ", due is " + want);
+            System.out.println(about + what + ": " + got + ", due is " + want);
         }
     }
 
     static int failures() {
         return failed;
+    }
+
+    static int looks() {
+        return passed + failed;
     }
 
     static void finish(String test) {

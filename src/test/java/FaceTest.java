@@ -7,6 +7,8 @@ import java.nio.file.Files;
 import java.nio.file.Path;
 import java.util.ArrayList;
 import java.util.List;
+import java.util.Map;
+import java.util.TreeMap;
 import java.util.TreeSet;
 import java.util.regex.Matcher;
 import java.util.regex.Pattern;
@@ -22,7 +24,8 @@ final class FaceTest {
         "restore(int)", "save(int)", "set(int,int)", "take(int)", "undo()", "why(int)", "willBeWet(int)", "wipe()",
         "worst()"};
     private static final String[] FORBIDDEN = {
-        "\\bthrow\\b", "\\btry\\b", "\\bcatch\\b", "\\bsynchronized\\b", "\\bassert\\b", "\\bimport\\b", "\\bpackage\\b",
+        "\\bthrow\\b", "\\btry\\b", "\\bcatch\\b", "\\bsynchronized\\b", "\\bassert\\b", "\\bimport\\b",
+        "\\bpackage\\b",
         "->", "::", "\\bstatic\\s*\\{", "Exact\\(", "\\bObject\\b", "\\bequals\\b", "\\bhashCode\\b", "\\btoString\\b",
         "\\binstanceof\\b", "\\bRandom\\b", "\\bSystem\\.(?!arraycopy\\b)", "\\bnew \\w+\\[[^\\]A-Z]"};
 
@@ -69,15 +72,20 @@ final class FaceTest {
         }
         Due.same("methods", seen.toString(), List.of(METHODS).toString());
         Due.due("constructors", PianoCovers.class.getDeclaredConstructors().length, 1);
-        Due.due("public constructors without parameters", PianoCovers.class.getConstructors()[0].getParameterCount(), 0);
+        Due.due("parameters of the constructor", PianoCovers.class.getConstructors()[0].getParameterCount(), 0);
         Due.due("the class is public and final", PianoCovers.class.getModifiers(), Modifier.PUBLIC | Modifier.FINAL);
     }
 
-    private static void namesOfPrivateMethods() {
+    private static TreeSet<String> namesOfTheFace() {
         TreeSet<String> names = new TreeSet<>();
         for (String method : METHODS) {
             names.add(method.substring(0, method.indexOf('(')));
         }
+        return names;
+    }
+
+    private static void namesOfPrivateMethods() {
+        TreeSet<String> names = namesOfTheFace();
         List<Class<?>> classes = new ArrayList<>(List.of(PianoCovers.class.getDeclaredClasses()));
         classes.add(PianoCovers.class);
         for (Class<?> type : classes) {
@@ -125,6 +133,7 @@ final class FaceTest {
             }
         }
         methodLengths(code);
+        depthOfCalls(code);
     }
 
     private static void methodLengths(String code) {
@@ -139,5 +148,36 @@ final class FaceTest {
                 begin = 0;
             }
         }
+    }
+
+    /** Rule 11: calls that are no recursion go at most eight deep. There is none here, and each name is used once. */
+    private static void depthOfCalls(String code) {
+        Map<String, String> bodies = new TreeMap<>();
+        String face = "(?m)^ {4,8}(?:public|private) (?:static )?\\w+ (\\w+)\\([^)]*\\) \\{$";
+        Matcher header = Pattern.compile(face).matcher(code);
+        while (header.find()) {
+            String indent = header.group().replaceFirst("\\S.*", "");
+            int end = code.indexOf("\n" + indent + "}", header.end());
+            String second = bodies.put(header.group(1), code.substring(header.end(), end));
+            Due.due("that there is one " + header.group(1), second == null ? 1 : 0, 1);
+        }
+        Due.due("all methods of the face were found", bodies.keySet().containsAll(namesOfTheFace()) ? 1 : 0, 1);
+        int deepest = 0;
+        for (String name : bodies.keySet()) {
+            deepest = Math.max(deepest, depth(name, bodies, 1));
+        }
+        Due.due("calls go " + deepest + " deep", deepest <= 8 ? 1 : 0, 1);
+    }
+
+    /** How deep calls go from a method on; a recursion goes deeper than anything else. */
+    private static int depth(String name, Map<String, String> bodies, int above) {
+        int deepest = above;
+        Matcher call = Pattern.compile("\\b(\\w+)\\(").matcher(bodies.get(name));
+        while (call.find() && above < 30) {
+            if (bodies.containsKey(call.group(1))) {
+                deepest = Math.max(deepest, depth(call.group(1), bodies, above + 1));
+            }
+        }
+        return deepest;
     }
 }

@@ -22,18 +22,20 @@ final class Help {
         return answer;
     }
 
-    /** All that undo brings back, as far as it can be asked. */
+    /** All that undo brings back, as far as it can be asked; what is not there is not asked, to spare calls. */
     static String street(PianoCovers x) {
         StringBuilder seen = new StringBuilder();
         for (int what = 0; what <= 16; what++) {
             seen.append(x.count(what)).append(' ');
         }
+        int pianos = x.count(1);
         for (int place = 0; place < 12; place++) {
-            for (int what = 0; what <= 5; what++) {
+            for (int what = 0; what <= 5 && (pianos >> place & 1) == 1; what++) {
                 seen.append(x.of(place, what)).append(' ');
             }
         }
-        for (int keeper = 0; keeper < 4; keeper++) {
+        int keepers = x.count(4);
+        for (int keeper = 0; keeper < keepers; keeper++) {
             for (int what = 0; what <= 4; what++) {
                 seen.append(x.ofKeeper(keeper, what)).append(' ');
             }

@@ -1,14 +1,17 @@
 import java.util.Random;
 
-/** Long runs of calls, the same ones each time, answered by the program and by PlainStreet alike. */
+/** Runs of calls, the same ones each time, answered by the program and by PlainStreet alike. */
 final class ModelTest {
-    private static final int RUNS = 600;
-    private static final int CALLS = 512;
+    private static final int RUNS = 4000;
+    /** What an object answers behind its 512th call is free; a look at all takes 111 calls, a step at most ten. */
+    private static final int MOST_CALLS = 512 - 111 - 10;
+    private static final int TO_THE_BOUND = 100;
 
     private final Random random;
     private final PianoCovers real = new PianoCovers();
     private final PlainStreet plain = new PlainStreet();
     private String call = "";
+    private int calls = 0;
 
     private ModelTest(long seed) {
         random = new Random(seed);
@@ -16,20 +19,23 @@ final class ModelTest {
 
     public static void main(String[] args) {
         for (int run = 0; run < RUNS && Due.failures() == 0; run++) {
-            new ModelTest(run).run("run " + run);
+            new ModelTest(run).run("run " + run, run % 10 == 0);
         }
         Due.finish("ModelTest");
     }
 
-    private void run(String name) {
+    /** Runs end at different lengths, so that the look at all comes behind all kinds of calls. */
+    private void run(String name, boolean nearTheBound) {
         int pace = random.nextInt(3);
-        for (int i = 0; i < CALLS && Due.failures() == 0; i++) {
-            int[] answers = step(pace);
-            Due.due(name + ", call " + i + ": " + call, answers[0], answers[1]);
-            if (i % 16 == 15) {
-                lookAtAll(name + ", behind call " + i + " " + call);
-            }
+        for (int i = 0; nearTheBound && i < TO_THE_BOUND; i++) {
+            told("pass", 99, 0, real.pass(99), plain.pass(99));
         }
+        int last = calls + 1 + random.nextInt(MOST_CALLS - calls);
+        while (calls < last && Due.failures() == 0) {
+            int[] answers = step(pace);
+            Due.due(name + ", call " + calls + ": " + call, answers[0], answers[1]);
+        }
+        lookAtAll(name + ", behind call " + calls + ": " + call);
     }
 
     private void lookAtAll(String name) {
@@ -168,9 +174,7 @@ final class ModelTest {
                 return answers;
             }
         }
-        int fault = real.fault();
-        int due = plain.fault();
-        return fault == due ? answers : told("fault of '" + plain.pad + "'", 0, 0, fault, due);
+        return told("fault of '" + plain.pad + "'", 0, 0, real.fault(), plain.fault());
     }
 
     private String mixed(int length) {
@@ -210,6 +214,7 @@ final class ModelTest {
 
     private int[] told(String name, long a, long b, int answer, int due) {
         call = name + " " + a + " " + b;
+        calls++;
         return new int[] {answer, due};
     }
 }

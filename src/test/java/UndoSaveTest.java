@@ -55,7 +55,7 @@ final class UndoSaveTest {
     }
 
     /** Each keeper has a piano of its own to cover, open and tune, and a way to go. */
-    private static void undoWithFourKeepers() {
+    private static PianoCovers withBusyKeepers() {
         PianoCovers x = new PianoCovers();
         x.set(PianoCovers.FALL, 20);
         x.set(PianoCovers.TUNE, 100);
@@ -65,27 +65,30 @@ final class UndoSaveTest {
             x.keeper(3 * keeper);
         }
         x.pass(12);
+        return x;
+    }
+
+    private static void undoWithFourKeepers() {
         for (int keeper = 0; keeper < 4; keeper++) {
+            PianoCovers x = withBusyKeepers();
             for (int what = 1; what <= 4; what++) {
                 Due.due("keeper " + keeper + " did " + what, x.ofKeeper(keeper, what) > 0 ? 1 : 0, 1);
             }
-        }
-        String seen = Help.street(x);
-        x.save(0);
-        for (int i = 0; i < 5; i++) {
-            x.take(1 + 3 * (i % 4));
-            x.piano(2 + 3 * (i % 4), 1);
+            String seen = Help.street(x);
+            x.save(0);
+            x.take(1 + 3 * keeper);
+            x.piano(2 + 3 * keeper, 1);
             x.pass(50);
-            Due.due("keeper " + i % 4 + " went on", x.ofKeeper(i % 4, 4) > 1 ? 1 : 0, 1);
+            Due.due("keeper " + keeper + " went on", x.ofKeeper(keeper, 4) > 1 ? 1 : 0, 1);
             String later = Help.street(x);
             x.restore(0);
-            Due.same("restored " + i, Help.street(x), seen);
+            Due.same("restored " + keeper, Help.street(x), seen);
             x.undo();
-            Due.same("undone " + i, Help.street(x), later);
+            Due.same("undone " + keeper, Help.street(x), later);
             x.undo();
             x.undo();
             x.undo();
-            Due.same("all undone " + i, Help.street(x), seen);
+            Due.same("all undone " + keeper, Help.street(x), seen);
         }
     }
 
