@@ -146,6 +146,7 @@ final class BoundariesOfLooks {
     private static void ofNoKeeper() {
         Made.refused("ofKeeper(-1, 0)", x -> x.ofKeeper(-1, 0), PianoCovers.NO_SUCH);
         Made.refused("ofKeeper(2, 0) of two", x -> x.ofKeeper(2, 0), PianoCovers.NO_SUCH);
+        Made.refused("ofKeeper(3, 0) of two", x -> x.ofKeeper(3, 0), PianoCovers.NO_SUCH);
         Made.refused("ofKeeper(4, 0) of four", Made::withFourKeepers, x -> x.ofKeeper(4, 0), PianoCovers.NO_SUCH);
         Made.refused("ofKeeper(0, 0) of none", PianoCovers::new, x -> x.ofKeeper(0, 0), PianoCovers.NO_SUCH);
         Made.refused("ofKeeper(MIN, 0)", x -> x.ofKeeper(Integer.MIN_VALUE, 0), PianoCovers.NO_SUCH);

@@ -41,9 +41,13 @@ final class BoundariesOfUndo {
         Due.due("a cover was stolen", x.count(6), 1);
         x.save(0);
         String seen = Help.street(x);
+        x.cover(11);
         x.pass(40);
+        Due.due("keeper 3 covered more", x.ofKeeper(3, 1) > 2 ? 1 : 0, 1);
+        Due.due("and opened more", x.ofKeeper(3, 2) > 1 ? 1 : 0, 1);
         x.undo();
-        Due.same("behind hours", Help.street(x), seen);
+        x.undo();
+        Due.same("behind a cover and hours", Help.street(x), seen);
         Help.write(x, "t9;r5;p1c;t3;c9");
         x.carryOut();
         x.undo();

@@ -379,6 +379,14 @@ final class BoundariesOfWhatIfs {
         Due.due("no coins", x.bestPlace(48, 1), 0);
         Due.due("3 or 9 alike", outOfTuneAt(3, 9).bestPlace(1, 0), 3);
         Due.due("11 alone", outOfTuneAt(11).bestPlace(1, 0), 11);
+        PianoCovers y = Made.at(8);
+        for (int place = 0; place < 12; place++) {
+            y.piano(place, 1);
+        }
+        y.rain(Help.hour(10));
+        Due.due("at each place it covers one, so all alike: none but 0 to 11", y.bestPlace(1, 0), 0);
+        Due.due("the other eleven bring", y.bestPlace(1, 1), 110);
+        Due.due("all twelve bring without it", y.pass(1), 120);
     }
 
     private static void bestPlaceWithFour() {
@@ -394,6 +402,22 @@ final class BoundariesOfWhatIfs {
         Due.due("there is none", x.ofKeeper(4, 0), PianoCovers.NO_SUCH);
         Due.due("nor can one come", x.keeper(8), PianoCovers.TOO_MANY);
         Due.due("four keepers bring", x.pass(1), 4);
+        theFifthKeepsThievesOff();
+    }
+
+    /** By night a fifth keeper at 0 guards the cover, which keeper 0 lays on ahead of hour 9: hour 8 brings nothing. */
+    private static void theFifthKeepsThievesOff() {
+        PianoCovers x = new PianoCovers();
+        x.set(PianoCovers.THIEF, 1);
+        x.set(PianoCovers.WARN, 3);
+        x.piano(0, 1);
+        x.keeper(2);
+        x.keeper(11);
+        x.keeper(11);
+        x.keeper(11);
+        x.rain(Help.hour(9));
+        Due.due("the lowest place at which it guards nothing", x.bestPlace(9, 0), 1);
+        Due.due("the cover goes, and hour 8 brings", x.bestPlace(9, 1), 10);
     }
 
     private static void hoursOfBestPlace() {
