@@ -206,7 +206,8 @@ final class BoundariesOfHours {
         hour("open pianos with a pitch below TUNE", BoundariesOfHours::openPianosBelowTune);
         hour("(and which no keeper ahead chose)", BoundariesOfHours::tunesNoneThatAKeeperAheadChose);
         hour("at its place its pitch becomes 10 more, at most 100", BoundariesOfHours::tenMoreAtMost100);
-        hour("otherwise the keeper goes one place towards it. If", BoundariesOfHours::goesOnePlaceToTune);
+        hour("otherwise the keeper goes one place towards it. If there is none either",
+            BoundariesOfHours::goesOnePlaceToTune);
         hour("If there is none either, nothing is done", BoundariesOfHours::nothingIsDone);
     }
 

@@ -34,7 +34,9 @@ final class FaceTest {
         methods();
         namesOfPrivateMethods();
         sizes();
-        source(Path.of(args.length > 0 ? args[0] : "src/main/java/PianoCovers.java"));
+        Path source = Path.of(args.length > 0 ? args[0] : "src/main/java/PianoCovers.java");
+        source(source);
+        faceOfTheDocument(Path.of(args.length > 1 ? args[1] : "../shared/DOC.md"), withoutComments(source));
         Due.finish("FaceTest");
     }
 
@@ -120,9 +122,38 @@ final class FaceTest {
         Due.due(type.getName() + " has at most twenty fields", own <= 20 ? 1 : 0, 1);
     }
 
+    private static String withoutComments(Path path) throws IOException {
+        String text = Files.readString(path, StandardCharsets.UTF_8);
+        return text.replaceAll("(?s)/\\*.*?\\*/", " ").replaceAll("//[^\n]*", " ");
+    }
+
+    /** Each line of the document's code block stands in the class, and nothing else there is public. */
+    private static void faceOfTheDocument(Path document, String code) throws IOException {
+        String text = Files.readString(document, StandardCharsets.UTF_8);
+        int from = text.indexOf("```java\n") + "```java\n".length();
+        String[] lines = text.substring(from, text.indexOf("\n```", from)).split("\n");
+        int told = 0;
+        for (String line : lines) {
+            told += line.contains("public ") ? 1 : 0;
+            String due = line.endsWith(");") ? line.replaceFirst(";$", " {") : line;
+            Due.due("\"" + line.trim() + "\" stands in the class", count(code, "\n" + due + "\n"), 1);
+        }
+        Due.due("lines of the face", told, 27);
+        Due.due("what is public", count(code, "public "), told);
+        Due.due("what is protected", count(code, "protected "), 0);
+    }
+
+    private static int count(String text, String part) {
+        int found = 0;
+        for (int at = ("\n" + text).indexOf(part); at >= 0; at = ("\n" + text).indexOf(part, at + 1)) {
+            found++;
+        }
+        return found;
+    }
+
     private static void source(Path path) throws IOException {
         String text = Files.readString(path, StandardCharsets.UTF_8);
-        String code = text.replaceAll("(?s)/\\*.*?\\*/", " ").replaceAll("//[^\n]*", " ");
+        String code = withoutComments(path);
         for (String forbidden : FORBIDDEN) {
             Matcher matcher = Pattern.compile(forbidden).matcher(code);
             Due.same("forbidden " + forbidden, matcher.find() ? matcher.group() : "", "");
@@ -133,7 +164,10 @@ final class FaceTest {
             }
         }
         methodLengths(code);
-        depthOfCalls(code);
+        library(code);
+        Map<String, String> bodies = bodies(code);
+        depthOfCalls(bodies);
+        noObjectsOfCalls(bodies);
     }
 
     private static void methodLengths(String code) {
@@ -150,8 +184,18 @@ final class FaceTest {
         }
     }
 
-    /** Rule 11: calls that are no recursion go at most eight deep. There is none here, and each name is used once. */
-    private static void depthOfCalls(String code) {
+    /** Rule 4: what of the library the class calls. */
+    private static void library(String code) {
+        TreeSet<String> called = new TreeSet<>();
+        Matcher matcher = Pattern.compile("\\b[A-Z]\\w*\\.\\w+").matcher(code);
+        while (matcher.find()) {
+            called.add(matcher.group());
+        }
+        Due.same("library", called.toString(), "[Integer.bitCount, Math.max, Math.min, System.arraycopy]");
+        Due.due("texts", count(code, "\""), 0);
+    }
+
+    private static Map<String, String> bodies(String code) {
         Map<String, String> bodies = new TreeMap<>();
         String face = "(?m)^ {4,8}(?:public|private) (?:static )?\\w+ (\\w+)\\([^)]*\\) \\{$";
         Matcher header = Pattern.compile(face).matcher(code);
@@ -161,6 +205,18 @@ final class FaceTest {
             String second = bodies.put(header.group(1), code.substring(header.end(), end));
             Due.due("that there is one " + header.group(1), second == null ? 1 : 0, 1);
         }
+        return bodies;
+    }
+
+    /** All calls of a run live in one room, so that only constructors make objects and rows. */
+    private static void noObjectsOfCalls(Map<String, String> bodies) {
+        for (Map.Entry<String, String> method : bodies.entrySet()) {
+            Due.due(method.getKey() + " makes objects", count(method.getValue(), "new "), 0);
+        }
+    }
+
+    /** Rule 11: calls that are no recursion go at most eight deep. There is none here, and each name is used once. */
+    private static void depthOfCalls(Map<String, String> bodies) {
         Due.due("all methods of the face were found", bodies.keySet().containsAll(namesOfTheFace()) ? 1 : 0, 1);
         int deepest = 0;
         for (String name : bodies.keySet()) {

@@ -14,11 +14,9 @@ final class Sentence {
     /** From and to in a section's text, of all words that a test holds. */
     private static final Map<String, List<int[]>> HELD = new LinkedHashMap<>();
 
-    /** What tells that a clause names a boundary: an error, NONE, a range, or words of an edge. */
-    private static final Pattern BOUNDARY = Pattern.compile(
-        "NO_SUCH|BAD_VALUE|BAD_TEXT|TOO_MANY|NOT_POSSIBLE|NONE|\\d to \\d|\\(\\d+ (if|at first)|at most|at least|up to"
-        + "|of several|also |below|above|just |within|left over|rounded|each method|overwrites|keeps|Empties|nothing");
     private static final Pattern CLAUSE = Pattern.compile("[^.;]+");
+    /** What is left between the points of a list, or of a grammar, is no clause. */
+    private static final Pattern WORD = Pattern.compile("[A-Za-z]{2}");
 
     private Sentence() { }
 
@@ -46,7 +44,7 @@ final class Sentence {
         Due.about("");
     }
 
-    /** Looks for clauses of the terms and the promises that name a boundary and have no test. */
+    /** Looks for clauses of the terms and the promises that have no test. */
     static void lookForThoseWithoutTest() {
         for (Map.Entry<String, String> section : SECTIONS.entrySet()) {
             if (section.getKey().matches("Terms|Settings|Street|An hour|Texts|Promise \\d+")) {
@@ -57,7 +55,7 @@ final class Sentence {
 
     private static void lookForThoseWithoutTest(String section, String text) {
         CLAUSE.matcher(text).results().forEach(clause -> {
-            if (BOUNDARY.matcher(clause.group()).find()) {
+            if (WORD.matcher(clause.group()).find()) {
                 boolean held = HELD.getOrDefault(section, List.of()).stream()
                     .anyMatch(range -> range[0] < clause.end() && range[1] > clause.start());
                 Due.due(section + ", tests of \"" + clause.group().trim() + "\"", held ? 1 : 0, 1);
